@@ -1,5 +1,6 @@
+import java.lang.reflect.InvocationTargetException;
+import java.lang.reflect.Method;
 import java.util.Arrays;
-import java.util.function.LongSupplier;
 
 /** Runs of 512 calls, the same ones each time, answered by BlendRows and by PlainModel. */
 public final class ModelTest {
@@ -12,6 +13,9 @@ public final class ModelTest {
     private static final int[] EARLY = {3, 8, 12, 2, 2, 12, 0, 1, 1, 1, 2, 3, 2, 2, 2};
     private static final int[] LATE = {1, 2, 2, 2, 1, 2, 14, 8, 6, 10, 5, 4, 2, 3, 1};
 
+    private static final Method[] OF_MODEL = callsOf(PlainModel.class);
+    private static final Method[] OF_PROGRAM = callsOf(BlendRows.class);
+
     private static long seed = 1;
     private static final int[] ANSWERED = new int[NAMES.length];
     private static final int[] REFUSED = new int[NAMES.length];
@@ -22,8 +26,8 @@ public final class ModelTest {
         }
         for (int call = 0; call < NAMES.length; call++) {
             int at = call;
-            Due.is("runs with answers of " + NAMES[call], 1, () -> ANSWERED[at] > 1000 ? 1 : 0);
-            Due.is("runs with refusals of " + NAMES[call], 1, () -> REFUSED[at] > 300 ? 1 : 0);
+            Due.is("enough answers of " + NAMES[call], 1, () -> ANSWERED[at] > 1000 ? 1 : 0);
+            Due.is("enough refusals of " + NAMES[call], 1, () -> REFUSED[at] > 300 ? 1 : 0);
         }
         Due.end();
     }
@@ -36,8 +40,8 @@ public final class ModelTest {
         for (int step = 0; step < CALLS; step++) {
             int call = weighted(step < early ? EARLY : LATE);
             int[] with = arguments(call, wild);
-            String want = answer(() -> ofModel(model, call, with));
-            String got = answer(() -> ofProgram(program, call, with));
+            String want = answer(OF_MODEL[call], model, with);
+            String got = answer(OF_PROGRAM[call], program, with);
             Due.same("run " + run + " call " + step + " " + NAMES[call] + Arrays.toString(with),
                     got, want);
             if (want.startsWith("throws")) {
@@ -48,11 +52,25 @@ public final class ModelTest {
         }
     }
 
-    private static String answer(LongSupplier asked) {
+    /** The two have no type in common, so their calls are found by name. */
+    private static Method[] callsOf(Class<?> kind) {
+        Method[] calls = new Method[NAMES.length];
+        for (Method method : kind.getDeclaredMethods()) {
+            int at = Arrays.asList(NAMES).indexOf(method.getName());
+            if (at >= 0) {
+                calls[at] = method;
+            }
+        }
+        return calls;
+    }
+
+    private static String answer(Method call, Object asked, int[] with) {
         try {
-            return Long.toString(asked.getAsLong());
-        } catch (RuntimeException e) {
-            return "throws " + e.getClass().getName();
+            return String.valueOf(call.invoke(asked, Arrays.stream(with).boxed().toArray()));
+        } catch (InvocationTargetException e) {
+            return "throws " + e.getCause().getClass().getName();
+        } catch (IllegalAccessException e) {
+            return "can't be called";
         }
     }
 
@@ -136,80 +154,6 @@ public final class ModelTest {
                 return new int[] {part, among(0, 1, wild)};
             default:
                 return new int[] {pick(2) == 0 ? among(1, 1000, wild) : 1 + pick(30)};
-        }
-    }
-
-    private static long ofModel(PlainModel x, int call, int[] w) {
-        switch (call) {
-            case 0:
-                x.moisture(w[0], w[1]);
-                return 0;
-            case 1:
-                x.element(w[0], w[1], w[2]);
-                return 0;
-            case 2:
-                return x.ship(w[0], w[1], w[2], w[3]);
-            case 3:
-                return x.stock(w[0]);
-            case 4:
-                return x.pile(w[0]);
-            case 5:
-                return x.lay(w[0], w[1], w[2]);
-            case 6:
-                return x.slice(w[0]);
-            case 7:
-                return x.share(w[0], w[1], w[2]);
-            case 8:
-                return x.basicity(w[0], w[1]);
-            case 9:
-                return x.spread(w[0], w[1], w[2]);
-            case 10:
-                return x.pileAt(w[0], w[1]);
-            case 11:
-                return x.mix(w[0], w[1], w[2], w[3], w[4]);
-            case 12:
-                return x.point(w[0], w[1]);
-            case 13:
-                return x.fit(w[0], w[1]);
-            default:
-                return x.tick(w[0]);
-        }
-    }
-
-    private static long ofProgram(BlendRows x, int call, int[] w) {
-        switch (call) {
-            case 0:
-                x.moisture(w[0], w[1]);
-                return 0;
-            case 1:
-                x.element(w[0], w[1], w[2]);
-                return 0;
-            case 2:
-                return x.ship(w[0], w[1], w[2], w[3]);
-            case 3:
-                return x.stock(w[0]);
-            case 4:
-                return x.pile(w[0]);
-            case 5:
-                return x.lay(w[0], w[1], w[2]);
-            case 6:
-                return x.slice(w[0]);
-            case 7:
-                return x.share(w[0], w[1], w[2]);
-            case 8:
-                return x.basicity(w[0], w[1]);
-            case 9:
-                return x.spread(w[0], w[1], w[2]);
-            case 10:
-                return x.pileAt(w[0], w[1]);
-            case 11:
-                return x.mix(w[0], w[1], w[2], w[3], w[4]);
-            case 12:
-                return x.point(w[0], w[1]);
-            case 13:
-                return x.fit(w[0], w[1]);
-            default:
-                return x.tick(w[0]);
         }
     }
 }
