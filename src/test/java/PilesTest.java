@@ -16,6 +16,7 @@ public final class PilesTest {
         basicity();
         spread();
         spreadSkipsEmptySlices();
+        spreadOfFewGrams();
         greatNumbers();
         pileAt();
         indexBeforeTurn();
@@ -330,6 +331,27 @@ public final class PilesTest {
         Due.fraction("11: empty slices have no share", 0, 1,
                 () -> x.spread(0, 1, 0), () -> x.spread(0, 1, 1));
         Due.refuses("9: the latest one is empty", Due.MEANING, () -> x.share(0, 1, 0));
+    }
+
+    /** 100 g and 200 g in 150 slices: 0 1, 1 1, 1 2: shares that are next to one another. */
+    private static void spreadOfFewGrams() {
+        BlendRows x = full();
+        x.pile(150);
+        x.moisture(0, 900);
+        x.element(0, 1, 1);
+        x.lay(0, 0, 1);
+        x.element(0, 1, 0);
+        x.element(0, 2, 1);
+        x.lay(0, 0, 2);
+        x.slice(0);
+        x.slice(0);
+        Due.fraction("11: 1 in 2 less 0 in 1", 1, 2,
+                () -> x.spread(0, 1, 0), () -> x.spread(0, 1, 1));
+        Due.fraction("11: 1 in 1 less 1 in 2", 1, 2,
+                () -> x.spread(0, 2, 0), () -> x.spread(0, 2, 1));
+        x.slice(0);
+        Due.fraction("11: 1 in 3 lies between", 1, 2,
+                () -> x.spread(0, 1, 0), () -> x.spread(0, 1, 1));
     }
 
     /** The greatest grams and shares that can be: products beyond an int, near a long's end. */
