@@ -1,50 +1,53 @@
-import java.util.function.LongSupplier;
+import java.lang.reflect.InvocationTargetException;
+import java.lang.reflect.Method;
+import java.util.Arrays;
+import java.util.Comparator;
 
 /** Counts the answers that are not as due; end() closes a test with exit code 1 if there is one. */
 final class Due {
-    static final Class<? extends RuntimeException> INDEX = IndexOutOfBoundsException.class;
-    static final Class<? extends RuntimeException> TURN = IllegalStateException.class;
-    static final Class<? extends RuntimeException> RANGE = IllegalArgumentException.class;
-    static final Class<? extends RuntimeException> MEANING = UnsupportedOperationException.class;
-
     private static int wrong = 0;
+    private static String heading = "";
 
     private Due() {
     }
 
-    static void is(String call, long want, LongSupplier asked) {
-        String got;
-        try {
-            got = Long.toString(asked.getAsLong());
-        } catch (RuntimeException e) {
-            got = "throws " + e.getClass().getName();
-        }
-        same(call, got, Long.toString(want));
-    }
-
-    /** Both numbers of a fraction; the first text stands for the call without its part. */
-    static void fraction(String call, long upper, long lower, LongSupplier part0,
-            LongSupplier part1) {
-        is(call + " part 0", upper, part0);
-        is(call + " part 1", lower, part1);
-    }
-
-    /** The very class is due: what the machine throws is of a class below it and counts as wrong. */
-    static void refuses(String call, Class<? extends RuntimeException> kind, Runnable asked) {
-        String got = "no exception";
-        try {
-            asked.run();
-        } catch (RuntimeException e) {
-            got = "throws " + e.getClass().getName();
-        }
-        same(call, got, "throws " + kind.getName());
-    }
-
-    static void same(String call, String got, String want) {
+    static void same(String what, String got, String want) {
         if (!got.equals(want)) {
             wrong++;
-            System.out.println(call + " answered " + got + ", due is " + want);
+            System.out.println(heading + what + " answered " + got + ", due is " + want);
         }
+    }
+
+    static void holds(String what, boolean good) {
+        same(what, good ? "yes" : "no", "yes");
+    }
+
+    /** Runs every method of the class that names its sentence, each with a run of its own. */
+    static void sentencesOf(Class<?> test) {
+        Method[] methods = test.getDeclaredMethods();
+        Arrays.sort(methods, Comparator.comparing(Method::getName));
+        for (Method method : methods) {
+            Sentence sentence = method.getAnnotation(Sentence.class);
+            if (sentence != null) {
+                heading = test.getName() + "." + method.getName() + ", \"" + sentence.value()
+                        + "\": ";
+                tryOut(method);
+            }
+        }
+        heading = "";
+        end();
+    }
+
+    private static void tryOut(Method method) {
+        Run run = new Run();
+        try {
+            method.invoke(null, run);
+        } catch (InvocationTargetException e) {
+            same("the test", "throws " + e.getCause(), "nothing thrown");
+        } catch (IllegalAccessException | IllegalArgumentException e) {
+            same("the test", "can't be called: " + e, "a method with a run");
+        }
+        run.end();
     }
 
     static void end() {

@@ -40,15 +40,15 @@ public final class FaceTest {
         Due.same("the face", got.toString(), want.toString());
         for (String line : want) {
             String name = line.substring(line.indexOf(' ') + 1, line.indexOf('('));
-            Due.is("a private " + name, 0, () -> hidden.contains(name) ? 1 : 0);
+            Due.holds("no private method is named " + name + ",", !hidden.contains(name));
         }
         for (Field field : BlendRows.class.getDeclaredFields()) {
-            Due.is("the field " + field.getName() + " is private", 1,
-                    () -> Modifier.isPrivate(field.getModifiers()) ? 1 : 0);
+            Due.holds("the field " + field.getName() + " is private,",
+                    Modifier.isPrivate(field.getModifiers()));
         }
         Due.same("the class", Modifier.toString(BlendRows.class.getModifiers()), "public final");
-        Due.is("constructors", 1, () -> BlendRows.class.getDeclaredConstructors().length);
-        Due.is("public constructors", 1, () -> BlendRows.class.getConstructors().length);
+        Due.holds("one constructor", BlendRows.class.getDeclaredConstructors().length == 1);
+        Due.holds("a public constructor", BlendRows.class.getConstructors().length == 1);
         Due.end();
     }
 

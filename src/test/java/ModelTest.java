@@ -1,4 +1,3 @@
-import java.lang.reflect.InvocationTargetException;
 import java.lang.reflect.Method;
 import java.util.Arrays;
 
@@ -25,9 +24,8 @@ public final class ModelTest {
             run(run);
         }
         for (int call = 0; call < NAMES.length; call++) {
-            int at = call;
-            Due.is("enough answers of " + NAMES[call], 1, () -> ANSWERED[at] > 1000 ? 1 : 0);
-            Due.is("enough refusals of " + NAMES[call], 1, () -> REFUSED[at] > 300 ? 1 : 0);
+            Due.holds("enough answers of " + NAMES[call], ANSWERED[call] > 1000);
+            Due.holds("enough refusals of " + NAMES[call], REFUSED[call] > 300);
         }
         Due.end();
     }
@@ -40,9 +38,9 @@ public final class ModelTest {
         for (int step = 0; step < CALLS; step++) {
             int call = weighted(step < early ? EARLY : LATE);
             int[] with = arguments(call, wild);
-            String want = answer(OF_MODEL[call], model, with);
-            String got = answer(OF_PROGRAM[call], program, with);
-            Due.same("run " + run + " call " + step + " " + NAMES[call] + Arrays.toString(with),
+            String want = Face.answer(OF_MODEL[call], model, with);
+            String got = Face.answer(OF_PROGRAM[call], program, with);
+            Due.same("run " + run + ", call " + step + ", " + Face.told(NAMES[call], with) + ",",
                     got, want);
             if (want.startsWith("throws")) {
                 REFUSED[call]++;
@@ -55,23 +53,10 @@ public final class ModelTest {
     /** The two have no type in common, so their calls are found by name. */
     private static Method[] callsOf(Class<?> kind) {
         Method[] calls = new Method[NAMES.length];
-        for (Method method : kind.getDeclaredMethods()) {
-            int at = Arrays.asList(NAMES).indexOf(method.getName());
-            if (at >= 0) {
-                calls[at] = method;
-            }
+        for (int call = 0; call < NAMES.length; call++) {
+            calls[call] = Face.method(kind, NAMES[call]);
         }
         return calls;
-    }
-
-    private static String answer(Method call, Object asked, int[] with) {
-        try {
-            return String.valueOf(call.invoke(asked, Arrays.stream(with).boxed().toArray()));
-        } catch (InvocationTargetException e) {
-            return "throws " + e.getCause().getClass().getName();
-        } catch (IllegalAccessException e) {
-            return "can't be called";
-        }
     }
 
     private static int pick(int below) {
