@@ -41,8 +41,14 @@ public final class BlendRows {
     private final Line line = new Line();
     private int today;
 
-    /** No ships, no piles, no points; today is 0. */
+    /**
+     * No ships, no piles, no points; today is 0. The rows of all piles are made here, for no memory
+     * is made later on: pile() only takes the next ones into use.
+     */
     public BlendRows() {
+        for (int number = 0; number < PILES; number++) {
+            piles[number] = new Pile();
+        }
     }
 
     /** Sets a material's moisture, in thousandths. */
@@ -88,12 +94,13 @@ public final class BlendRows {
 
     /** Makes one more pile: answers its number. */
     public int pile(int slices) throws IllegalStateException, IllegalArgumentException {
-        if (pileCount >= PILES) {
+        int number = pileCount;
+        Pile next = number < PILES ? piles[number] : null;
+        if (next == null) {
             throw new IllegalStateException("no more piles");
         }
         needRange(slices, 1, MOST_SLICES);
-        int number = pileCount;
-        piles[number] = new Pile(slices);
+        next.slices = slices;
         pileCount = number + 1;
         return number;
     }
@@ -274,10 +281,11 @@ public final class BlendRows {
     }
 
     private Pile needPile(int pile) {
-        if (pile < 0 || pile >= PILES || piles[pile] == null) {
+        Pile at = pile >= 0 && pile < PILES && pile < pileCount ? piles[pile] : null;
+        if (at == null) {
             throw new IndexOutOfBoundsException("no such pile");
         }
-        return piles[pile];
+        return at;
     }
 
     private static int lostKilos(int kilos, int loss) {
@@ -321,7 +329,7 @@ public final class BlendRows {
      * and grams (at most 2e7) stays within a long, so shares are compared exactly.
      */
     private static final class Pile {
-        private final int slices;
+        private int slices;
         private final int[] layerGrams = new int[LAYERS];
         private final int[] layerShares = new int[LAYERS * ELEMENTS];
         private int layers;
@@ -335,10 +343,6 @@ public final class BlendRows {
         private final int[] greatestGrams = new int[ELEMENTS];
         private final long[] leastSums = new long[ELEMENTS];
         private final int[] leastGrams = new int[ELEMENTS];
-
-        Pile(int slices) {
-            this.slices = slices;
-        }
 
         /** Copies the shares, for a material's shares may be set anew after it was laid. */
         void addLayer(int dryGrams, int[] shares, int material) {
